@@ -21,8 +21,8 @@ public final class SwungShips {
     private static final int STRIDE = 8, SPOTS = STRIDE * STRIDE, LAST_COLUMN = STRIDE - 1;
     private static final long ONE_ROW = 255L, FIRST_COLUMN = 0x0101010101010101L;
 
-    // Two ships clash only if their anchors are 3 columns and 3 rows apart at most: twice the
-    // chain of one, the other having none, and a side of 2.
+    // Two ships clash only if their anchors are 3 columns and 3 rows apart at most: chains differ
+    // by 2 at most, and a side reaches 1 further.
     private static final int FARTHEST = 3;
 
     private static final int[] WIND_X = {0, 1, 1, 1, 0, -1, -1, -1};
@@ -240,6 +240,7 @@ public final class SwungShips {
         }
         history.remember(now);
         for (int k = 0; k < count; k++) {
+            // Always the first: those behind have one number less each time.
             now.bringToAnchor(0, search.chosen[k]);
         }
         return count;
@@ -391,7 +392,7 @@ public final class SwungShips {
         return spot == NONE ? NONE : now.cellAt(columnOf(spot), lineOf(spot));
     }
 
-    // Wrapping int arithmetic is right here: only the 31 firstY bits are kept.
+    // Wrapping int arithmetic is right here: only the 31 lowest bits are kept.
     private int draw(int n) {
         seedNow = (seedNow * 1103515245 + 12345) & Integer.MAX_VALUE;
         return n > 0 ? (seedNow / 65536) % n : 0;
@@ -676,7 +677,7 @@ public final class SwungShips {
         }
     }
 
-    /** Finds spots for ships: the least row of spots for a row of ships, by the ships that stay. */
+    /** Finds spots for ships: the least row of spots for a row of ships, beside those that stay. */
     private static final class Search {
         private static final int ROW = 3;
 
@@ -882,8 +883,9 @@ public final class SwungShips {
 
     /** The states ahead of the latest deeds, in a ring. */
     private static final class History {
-        final Harbour[] before;
-        int kept, next;
+        private final Harbour[] before;
+        private int next;
+        int kept;
 
         History() {
             before = new Harbour[MOST_UNDONE];
@@ -911,7 +913,7 @@ public final class SwungShips {
 
     /** What was said of the cells of ships' anchors. */
     private static final class Book {
-        final int[] ships, cells;
+        private final int[] ships, cells;
         int entries;
 
         Book() {

@@ -550,6 +550,9 @@ public final class PromisesTest {
         due("its CELL", x.fit(0), 0);
         due("its CELL", x.fit(0), 1);
         due("the ANCHORS", x.ship(1, 3), 1);
+        due("each is a deed", x.undo(1), 4);
+        due("it WAITS again", x.waits(0, 2), 2);
+        due("its CELL", x.fit(0), 1);
         x.arrive(6, 0, 1);
         due("there is none", x.fit(0), NOT);
         x.turnAway(0);
@@ -643,6 +646,8 @@ public final class PromisesTest {
         due("how many are left", x.leave(1), 1);
         due("how many are left", x.leave(0), 0);
         due("no SHIP", x.leave(0), UNKNOWN);
+        due("each is a deed", x.undo(3), 6);
+        due("in their order", x.ship(0, 0) * 100 + x.ship(1, 0) * 10 + x.ship(2, 0), 123);
     }
 
     private static void turnAway() {
@@ -661,6 +666,9 @@ public final class PromisesTest {
         due("number 0", x.waits(0, 2), 2);
         due("how many are left", x.turnAway(0), 0);
         due("none WAITS there", x.turnAway(0), UNKNOWN);
+        due("each is a deed", x.undo(3), 3);
+        due("all WAIT again", x.told(5), 3);
+        due("in their order", x.waits(0, 0) * 100 + x.waits(1, 0) * 10 + x.waits(2, 0), 123);
     }
 
     // THE SEED from 0 on is 12345, 1406932606, 654583775, 1449466924; by 65536 that is 0, 21468,
