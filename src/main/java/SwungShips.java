@@ -14,6 +14,7 @@ public final class SwungShips {
     private static final int MOST_ANCHORED = 5, MOST_WAITING = 3, MOST_MOVED = 2;
     private static final int MOST_UNDONE = 16, MOST_ENTRIES = 20, MOST_DRAWS = 12, IMAGES = 2;
     private static final int NO_LACK = 100;
+    private static final int GREATEST = 2147483647;
 
     // Ships at anchor have the slots 0 to 4, ships that wait the slots behind.
     private static final int SLOTS = MOST_ANCHORED + MOST_WAITING;
@@ -394,7 +395,7 @@ public final class SwungShips {
 
     // Wrapping int arithmetic is right here: only the 31 lowest bits are kept.
     private int draw(int n) {
-        seedNow = (seedNow * 1103515245 + 12345) & Integer.MAX_VALUE;
+        seedNow = (seedNow * 1103515245 + 12345) & GREATEST;
         return n > 0 ? (seedNow / 65536) % n : 0;
     }
 
@@ -594,7 +595,7 @@ public final class SwungShips {
         }
 
         static int leastWater(Harbour h, int a, int winds) {
-            int least = Integer.MAX_VALUE;
+            int least = GREATEST;
             for (int wind = 0; wind < WINDS; wind++) {
                 if (blows(winds, wind)) {
                     least = Math.min(least, leastWaterBy(h, a, wind));
@@ -604,7 +605,7 @@ public final class SwungShips {
         }
 
         private static int leastWaterBy(Harbour h, int a, int wind) {
-            int least = Integer.MAX_VALUE;
+            int least = GREATEST;
             int x0 = firstX(h, a, wind);
             int y0 = firstY(h, a, wind);
             for (int y = y0; y < y0 + h.sides[a]; y++) {
