@@ -1,80 +1,56 @@
 /** Each promise of the document by runs worked out by hand: what is usual, its edges, wrong inputs. */
-public final class PromisesTest {
-    private static final int NONE = SwungShips.NONE, UNKNOWN = SwungShips.UNKNOWN, OUTSIDE = SwungShips.OUTSIDE,
-        NOT = SwungShips.NOT, FULL = SwungShips.FULL;
-    private static final int[] WRONG = {-1, Integer.MIN_VALUE, Integer.MAX_VALUE, 1 << 16, -65536};
+public final class PromisesTest extends Sheet {
+    private static final int[] WRONG = {-1, MIN, MAX, 1 << 16, -65536};
 
-    private static int promise;
-    private static int wrong = 0;
-    private static SwungShips x;
-
-    private static void due(String what, int got, int want) {
-        if (got != want) {
-            wrong++;
-            System.out.println("promise " + promise + ": " + what + " answered " + got + ", due is " + want);
-        }
+    private void start(int number) {
+        start("promise " + number);
     }
 
-    private static void start(int number) {
-        promise = number;
-        x = new SwungShips();
-    }
-
-    private static void start(int number, int w, int h) {
-        start(number);
-        due("harbour", x.harbour(w, h), 0);
-    }
-
-    /** A ship comes and anchors at once. */
-    private static void lay(int draught, int chain, int side, int atX, int atY) {
-        int a = x.told(4);
-        int k = x.arrive(draught, chain, side);
-        due("lay at " + atX + ", " + atY, x.anchor(k, atX, atY), a);
+    private void start(int number, int w, int h) {
+        start("promise " + number, w, h);
     }
 
     public static void main(String[] args) {
-        newObject();
-        toldNumbers();
-        toldDanger();
-        toldClashOutside();
-        toldPlacesForAll();
-        toldBook();
-        cells();
-        ships();
-        shipLeastWater();
-        waitsPlaces();
-        waitsFirst();
-        movesNone();
-        movesOne();
-        movesTwo();
-        movesThree();
-        movesLeastSet();
-        lies();
-        harbour();
-        depth();
-        tide();
-        winds();
-        arrive();
-        anchor();
-        fit();
-        fitAll();
-        shift();
-        leave();
-        turnAway();
-        drift();
-        undo();
-        undoRing();
-        book();
-        seed();
-        images();
-        refusedChangesNothing();
-        System.out.println(wrong == 0 ? "all answers are as due" : wrong + " answers are not as due");
-        if (wrong != 0) {
-            System.exit(1);
-        }
+        PromisesTest t = new PromisesTest();
+        t.newObject();
+        t.toldNumbers();
+        t.toldDanger();
+        t.toldClashOutside();
+        t.toldPlacesForAll();
+        t.toldBook();
+        t.cells();
+        t.ships();
+        t.shipLeastWater();
+        t.waitsPlaces();
+        t.waitsFirst();
+        t.movesNone();
+        t.movesOne();
+        t.movesTwo();
+        t.movesThree();
+        t.movesLeastSet();
+        t.lies();
+        t.harbour();
+        t.depth();
+        t.tide();
+        t.winds();
+        t.arrive();
+        t.anchor();
+        t.fit();
+        t.fitAll();
+        t.shift();
+        t.leave();
+        t.turnAway();
+        t.drift();
+        t.undo();
+        t.undoRing();
+        t.book();
+        t.seed();
+        t.images();
+        t.refusedChangesNothing();
+        t.end();
     }
 
-    private static void newObject() {
+    private void newObject() {
         start(1);
         int[] first = {6, 6, 0, 255, 0, 0, 0, 0, 1, 0, 0, 0, NONE, 0, 0};
         for (int what = 0; what < first.length; what++) {
@@ -87,7 +63,7 @@ public final class PromisesTest {
         due("goBack(1)", x.goBack(1), NOT);
     }
 
-    private static void toldNumbers() {
+    private void toldNumbers() {
         start(2, 3, 7);
         x.tide(-2);
         x.winds(5);
@@ -110,7 +86,7 @@ public final class PromisesTest {
         due("told(15)", x.told(15), OUTSIDE);
     }
 
-    private static void toldDanger() {
+    private void toldDanger() {
         start(2);
         x.winds(1);
         lay(1, 0, 1, 2, 2);
@@ -138,7 +114,7 @@ public final class PromisesTest {
         due("THREATS by a shoal", x.told(9), 16);
     }
 
-    private static void toldClashOutside() {
+    private void toldClashOutside() {
         start(2);
         x.winds(16);
         lay(1, 1, 1, 0, 5);
@@ -150,7 +126,7 @@ public final class PromisesTest {
         due("CELLS, swept", x.told(10), 0);
     }
 
-    private static void toldPlacesForAll() {
+    private void toldPlacesForAll() {
         start(2, 2, 2);
         due("none WAITS", x.told(8), 1);
         x.arrive(1, 0, 1);
@@ -166,7 +142,7 @@ public final class PromisesTest {
         due("one of them", x.waits(2, 3), 2);
     }
 
-    private static void toldBook() {
+    private void toldBook() {
         start(2);
         lay(1, 0, 1, 1, 0);
         lay(1, 0, 1, 2, 0);
@@ -185,7 +161,7 @@ public final class PromisesTest {
         due("WRONG, undone", x.told(12), 2);
     }
 
-    private static void cells() {
+    private void cells() {
         start(3, 7, 2);
         x.winds(4);
         x.depth(6, 1, 9);
@@ -219,7 +195,7 @@ public final class PromisesTest {
         }
     }
 
-    private static void ships() {
+    private void ships() {
         start(4);
         x.winds(1);
         lay(3, 1, 2, 4, 3);
@@ -240,7 +216,7 @@ public final class PromisesTest {
         }
     }
 
-    private static void shipLeastWater() {
+    private void shipLeastWater() {
         start(4);
         x.winds(1);
         lay(5, 2, 2, 2, 2);
@@ -274,7 +250,7 @@ public final class PromisesTest {
         due("out of THE HARBOUR", x.ship(1, 6), 0);
     }
 
-    private static void waitsPlaces() {
+    private void waitsPlaces() {
         start(5);
         x.arrive(3, 1, 1);
         x.arrive(5, 2, 2);
@@ -294,7 +270,7 @@ public final class PromisesTest {
         }
     }
 
-    private static void waitsFirst() {
+    private void waitsFirst() {
         start(5, 3, 2);
         x.depth(2, 0, 2);
         x.depth(2, 1, 2);
@@ -314,7 +290,7 @@ public final class PromisesTest {
         due("PLACES for one", x.waits(0, 3), 6);
     }
 
-    private static void movesNone() {
+    private void movesNone() {
         start(6, 2, 2);
         x.arrive(1, 0, 1);
         due("none moved: its own", x.moves(0, 0), 0);
@@ -335,7 +311,7 @@ public final class PromisesTest {
         }
     }
 
-    private static void movesOne() {
+    private void movesOne() {
         start(6, 3, 2);
         lay(1, 0, 1, 1, 0);
         x.arrive(1, 0, 2);
@@ -347,7 +323,7 @@ public final class PromisesTest {
         due("not so many", x.moves(0, 2), NONE);
     }
 
-    private static void movesTwo() {
+    private void movesTwo() {
         start(6, 3, 2);
         lay(1, 0, 1, 1, 1);
         lay(1, 0, 1, 1, 0);
@@ -365,14 +341,14 @@ public final class PromisesTest {
     }
 
     // Only 2 by 2 cells are deep enough for the one that waits.
-    private static void deepCorner() {
+    private void deepCorner() {
         start(6, 7, 2);
         for (int i = 0; i < 14; i++) {
             x.depth(i % 7, i / 7, i % 7 < 2 ? 5 : 2);
         }
     }
 
-    private static void movesThree() {
+    private void movesThree() {
         deepCorner();
         lay(1, 0, 1, 0, 0);
         lay(1, 0, 1, 1, 0);
@@ -386,7 +362,7 @@ public final class PromisesTest {
         due("three would be too many", x.shift(0), NOT);
     }
 
-    private static void movesLeastSet() {
+    private void movesLeastSet() {
         start(6, 4, 2);
         lay(1, 0, 1, 2, 1);
         lay(1, 0, 1, 1, 0);
@@ -407,7 +383,7 @@ public final class PromisesTest {
         due("the one moved must lie well", x.waits(0, 6), NONE);
     }
 
-    private static void lies() {
+    private void lies() {
         start(7);
         x.winds(1);
         lay(1, 2, 2, 2, 2);
@@ -431,7 +407,7 @@ public final class PromisesTest {
         }
     }
 
-    private static void harbour() {
+    private void harbour() {
         start(8);
         lay(1, 0, 1, 0, 0);
         lay(1, 0, 1, 5, 5);
@@ -458,7 +434,7 @@ public final class PromisesTest {
         due("most", x.harbour(7, 7), 0);
     }
 
-    private static void depth() {
+    private void depth() {
         start(9);
         due("what it was", x.depth(5, 4, 0), 5);
         due("what it was", x.depth(5, 4, 9), 0);
@@ -477,7 +453,7 @@ public final class PromisesTest {
         due("deeds", x.told(13), 3);
     }
 
-    private static void tide() {
+    private void tide() {
         start(10);
         due("what it was", x.tide(3), 0);
         due("what it was", x.tide(-3), 3);
@@ -487,7 +463,7 @@ public final class PromisesTest {
         due("deeds", x.told(13), 2);
     }
 
-    private static void winds() {
+    private void winds() {
         start(11);
         due("what it was", x.winds(1), 255);
         due("what it was", x.winds(255), 1);
@@ -498,7 +474,7 @@ public final class PromisesTest {
         due("deeds", x.told(13), 2);
     }
 
-    private static void arrive() {
+    private void arrive() {
         start(12);
         due("least", x.arrive(1, 0, 1), 0);
         due("most", x.arrive(9, 2, 2), 1);
@@ -513,7 +489,7 @@ public final class PromisesTest {
         due("deeds", x.told(13), 3);
     }
 
-    private static void anchor() {
+    private void anchor() {
         start(13, 3, 3);
         x.arrive(1, 0, 1);
         x.arrive(2, 0, 1);
@@ -541,7 +517,7 @@ public final class PromisesTest {
         }
     }
 
-    private static void fit() {
+    private void fit() {
         start(14, 3, 2);
         x.arrive(1, 0, 1);
         x.arrive(2, 0, 2);
@@ -568,7 +544,7 @@ public final class PromisesTest {
         due("none is gone", x.told(5), 2);
     }
 
-    private static void fitAll() {
+    private void fitAll() {
         start(15, 3, 2);
         due("none WAITS", x.fitAll(), NOT);
         x.depth(2, 0, 2);
@@ -601,7 +577,7 @@ public final class PromisesTest {
         due("NOT ahead of FULL", x.fitAll(), NOT);
     }
 
-    private static void shift() {
+    private void shift() {
         start(16, 3, 2);
         due("none WAITS there", x.shift(0), UNKNOWN);
         lay(1, 0, 1, 1, 0);
@@ -630,7 +606,7 @@ public final class PromisesTest {
         }
     }
 
-    private static void leave() {
+    private void leave() {
         start(17);
         lay(1, 0, 1, 0, 0);
         lay(2, 0, 1, 1, 0);
@@ -650,7 +626,7 @@ public final class PromisesTest {
         due("in their order", x.ship(0, 0) * 100 + x.ship(1, 0) * 10 + x.ship(2, 0), 123);
     }
 
-    private static void turnAway() {
+    private void turnAway() {
         start(18);
         x.arrive(1, 0, 1);
         x.arrive(2, 1, 2);
@@ -673,7 +649,7 @@ public final class PromisesTest {
 
     // THE SEED from 0 on is 12345, 1406932606, 654583775, 1449466924; by 65536 that is 0, 21468,
     // 9988, 22117: CELL 0 becomes 8, then CELL 16 becomes 7.
-    private static void drift() {
+    private void drift() {
         start(19);
         due("too few", x.drift(0), OUTSIDE);
         due("too many", x.drift(13), OUTSIDE);
@@ -697,7 +673,7 @@ public final class PromisesTest {
         due("deeds", x.told(13), 16);
     }
 
-    private static void undo() {
+    private void undo() {
         start(20);
         due("too few", x.undo(0), OUTSIDE);
         due("too many", x.undo(17), OUTSIDE);
@@ -732,7 +708,7 @@ public final class PromisesTest {
         }
     }
 
-    private static void undoRing() {
+    private void undoRing() {
         start(20);
         for (int i = 0; i < 40; i++) {
             x.depth(0, 0, i % 10);
@@ -751,12 +727,12 @@ public final class PromisesTest {
         due("TIDE", x.told(2), 0);
     }
 
-    private static void book() {
+    private void book() {
         start(21);
         due("no SHIP", x.write(0, 0), UNKNOWN);
         lay(1, 0, 1, 0, 0);
         for (int i = 0; i < 20; i++) {
-            due("how many", x.write(0, i == 0 ? 0 : Integer.MIN_VALUE + i), i + 1);
+            due("how many", x.write(0, i == 0 ? 0 : MIN + i), i + 1);
         }
         due("a 21st", x.write(0, 0), FULL);
         due("UNKNOWN ahead of FULL", x.write(1, 0), UNKNOWN);
@@ -765,7 +741,7 @@ public final class PromisesTest {
         for (int v : WRONG) {
             due("no SHIP", x.write(v, 0), UNKNOWN);
         }
-        promise = 22;
+        goOn("promise 22");
         due("how much it had", x.tear(), 20);
         due("no more", x.tear(), 0);
         due("entries", x.told(11), 0);
@@ -775,17 +751,17 @@ public final class PromisesTest {
         due("WRONG", x.told(12), 0);
     }
 
-    private static void seed() {
+    private void seed() {
         start(23);
-        due("what it was", x.seed(Integer.MAX_VALUE), 0);
-        due("what it was", x.seed(5), Integer.MAX_VALUE);
+        due("what it was", x.seed(MAX), 0);
+        due("what it was", x.seed(5), MAX);
         due("below 0", x.seed(-1), OUTSIDE);
-        due("below 0", x.seed(Integer.MIN_VALUE), OUTSIDE);
+        due("below 0", x.seed(MIN), OUTSIDE);
         due("is so", x.told(14), 5);
         due("no deed", x.told(13), 0);
     }
 
-    private static void images() {
+    private void images() {
         start(24);
         due("IMAGE", x.keep(2), UNKNOWN);
         due("IMAGE", x.goBack(2), UNKNOWN);
@@ -796,7 +772,7 @@ public final class PromisesTest {
         due("kept", x.keep(1), 1);
         due("nothing can be undone", x.told(13), 0);
         due("nothing can be undone", x.undo(1), NOT);
-        promise = 25;
+        goOn("promise 25");
         x.write(0, 7);
         x.seed(8);
         x.harbour(3, 3);
@@ -826,7 +802,7 @@ public final class PromisesTest {
         }
     }
 
-    private static int[] picture() {
+    private int[] picture() {
         int[] p = new int[15 + 24 + 24 + 36];
         int n = 0;
         for (int what = 0; what < 15; what++) {
@@ -842,7 +818,7 @@ public final class PromisesTest {
         return p;
     }
 
-    private static void refusedChangesNothing() {
+    private void refusedChangesNothing() {
         start(3);
         lay(2, 1, 1, 1, 1);
         x.arrive(9, 1, 2);
