@@ -53,6 +53,7 @@ public final class ShapeTest {
         due(3, "private final double half = 1;");
         due(3, "private final String text = null;");
         due(3, "private int[][] rows;");
+        due(3, "public int a(int v) { return v + 'a'; }");
         due(4, "public int a(int v) { return Math.addExact(v, 1); }");
         due(4, "public long a() { return System.nanoTime(); }");
         due(5, "private static int state = 0;");
@@ -68,7 +69,9 @@ public final class ShapeTest {
     }
 
     private static void noticedLoops() throws Exception {
-        due(6, "public int a(int n) { while (n > 0) { n--; } return 1; }");
+        due(9, "public int a(int n) { do { n--; } while (n > 0); return 1; }");
+        due(9, "public int a(int[] row) { for (int v : row) { return v; } return 1; }");
+        due(9, "public int a(int n) { while (n > 0) { n--; } return 1; }");
         due(9, "public int a(int n) { for (;;) { } }");
         due(9, "public int a(int n) { for (int i = 0; n > 1; i++) { } return 1; }");
         due(9, "public int a(int n) { for (int i = 0; i != n; i++) { } return 1; }");

@@ -35,10 +35,13 @@ public final class Shape extends TreePathScanner<Void, Void> {
     private static final Set<String> LIBRARY = Set.of("Math.max", "Math.min", "Math.floorMod", "Integer.bitCount", "Long.bitCount",
         "System.arraycopy");
     private static final Set<TypeKind> NUMBERS = Set.of(TypeKind.INT, TypeKind.LONG, TypeKind.BOOLEAN);
-    private static final Set<Tree.Kind> LEFT_OUT = Set.of(Tree.Kind.THROW, Tree.Kind.TRY, Tree.Kind.CATCH, Tree.Kind.SYNCHRONIZED,
-        Tree.Kind.ASSERT, Tree.Kind.LAMBDA_EXPRESSION, Tree.Kind.MEMBER_REFERENCE, Tree.Kind.WHILE_LOOP, Tree.Kind.DO_WHILE_LOOP,
-        Tree.Kind.ENHANCED_FOR_LOOP, Tree.Kind.TYPE_CAST, Tree.Kind.STRING_LITERAL, Tree.Kind.IMPORT, Tree.Kind.PACKAGE,
-        Tree.Kind.DOUBLE_LITERAL, Tree.Kind.FLOAT_LITERAL, Tree.Kind.CHAR_LITERAL);
+    /** What does not stand in the program, by the rule that leaves it out or that it would be looked at for. */
+    private static final Map<Integer, Set<Tree.Kind>> LEFT_OUT = Map.of(
+        2, Set.of(Tree.Kind.LAMBDA_EXPRESSION, Tree.Kind.MEMBER_REFERENCE),
+        3, Set.of(Tree.Kind.DOUBLE_LITERAL, Tree.Kind.FLOAT_LITERAL, Tree.Kind.CHAR_LITERAL, Tree.Kind.STRING_LITERAL),
+        4, Set.of(Tree.Kind.IMPORT, Tree.Kind.PACKAGE),
+        6, Set.of(Tree.Kind.THROW, Tree.Kind.TRY, Tree.Kind.SYNCHRONIZED, Tree.Kind.ASSERT, Tree.Kind.TYPE_CAST),
+        9, Set.of(Tree.Kind.WHILE_LOOP, Tree.Kind.DO_WHILE_LOOP, Tree.Kind.ENHANCED_FOR_LOOP));
 
     private final Trees trees;
     private final CompilationUnitTree unit;
@@ -113,8 +116,8 @@ public final class Shape extends TreePathScanner<Void, Void> {
 
     @Override
     public Void scan(Tree tree, Void p) {
-        if (tree != null && LEFT_OUT.contains(tree.getKind())) {
-            require(false, 6, tree.getKind() + " stands in the program: " + tree);
+        for (Map.Entry<Integer, Set<Tree.Kind>> e : LEFT_OUT.entrySet()) {
+            require(tree == null || !e.getValue().contains(tree.getKind()), e.getKey(), tree + " stands in the program");
         }
         return super.scan(tree, p);
     }
