@@ -1,6 +1,7 @@
 /**
- * Every kind of ship at anchor in every cell, by every wind alone and by all, with every kind of ship that
- * waits: where that one has a place, and how the first one lies, told cell by cell from the document.
+ * Every chain and side of a ship at anchor, in every cell where a wind lets it lie, by every wind alone and by
+ * several, with every chain and side of a ship that waits: where that one has a place, and how the first one
+ * lies, told cell by cell from the document. Depths and draughts are all the same here.
  */
 public final class EveryPairTest extends Sheet {
     private static final int EDGE = 7, DEPTH = 5;

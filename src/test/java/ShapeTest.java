@@ -22,6 +22,7 @@ public final class ShapeTest {
         noticed();
         noticedLoops();
         noticedCalls();
+        noticedSize();
         if (wrong != 0) {
             System.exit(1);
         }
@@ -56,6 +57,7 @@ public final class ShapeTest {
         due(3, "public int a(int v) { return v + 'a'; }");
         due(4, "public int a(int v) { return Math.addExact(v, 1); }");
         due(4, "public long a() { return System.nanoTime(); }");
+        due(4, "private final boolean is = new Object() == null;");
         due(5, "private static int state = 0;");
         due(5, "private static final int[] ROW = new int[3];");
         due(5, "private static final int[] ROW = {1}; public int a() { ROW[0] = 2; return 1; }");
@@ -95,5 +97,20 @@ public final class ShapeTest {
         }
         due(0, chain.toString());
         due(11, chain + "public int a() { return b8(); }");
+    }
+
+    private static void noticedSize() throws Exception {
+        StringBuilder fields = new StringBuilder();
+        StringBuilder classes = new StringBuilder();
+        for (int i = 1; i <= 20; i++) {
+            fields.append("private int f" + i + "; ");
+        }
+        for (int i = 1; i <= 11; i++) {
+            classes.append("private static final class Part" + i + " { } ");
+        }
+        due(0, fields.toString());
+        due(11, fields + "private int f21;");
+        due(0, classes.toString());
+        due(11, classes + "private static final class Part12 { }");
     }
 }
